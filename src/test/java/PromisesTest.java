@@ -236,6 +236,18 @@ public final class PromisesTest {
         due("of sixteen again", y.unrule(0), 15);
         find(y, 0, 0, 1, 9);
         due("the last moved up", y.by(0), 14);
+        InstallDesk z = plain(2, 1);
+        rule(z, 5, 0, 9);
+        rule(z, 7, 1, 9);
+        rule(z, 6, 0, 9);
+        find(z, 0, 0, 1, 9);
+        z.unrule(2);
+        due("ranks move up", z.by(0), 3);
+        due("goes", z.goes(0), 0);
+        rule(z, 6, 1, 9);
+        due("a quarrel", z.goes(0), QUARREL);
+        z.unrule(4);
+        due("the last goes, and the quarrel", z.goes(0), 0);
     }
 
     private static void promise7() {
@@ -419,8 +431,35 @@ public final class PromisesTest {
         due("finds(1)", x.finds(1), 2);
         due("finds(2)", x.finds(2), 1);
         due("finds(3)", x.finds(3), 3);
+        find(x, 0, 0, 1, 2);
+        due("finds(0) and one", x.finds(0), 5);
+        x.drop(7);
+        due("finds(0), one dropped", x.finds(0), 4);
+        due("finds(3), one dropped", x.finds(3), 3);
+        dueFirstAndLastFind();
         due("finds(-1)", x.finds(-1), BEYOND);
         due("finds(4)", x.finds(4), BEYOND);
+    }
+
+    private static void dueFirstAndLastFind() {
+        int[][] names = {{1}, {3}, {9}};
+        for (int what = 0; what <= 2; what++) {
+            InstallDesk x = plain(1, 1);
+            x.product(PRODUCT, 0, 0);
+            rule(x, 0, 0, 3);
+            rule(x, 0, 1, 3);
+            for (int i = 0; i < 2; i++) {
+                find(x, 0, 0, 1, names[what]);
+            }
+            due("first and last, finds(" + what + ")", x.finds(what), 2);
+            due("first and last, finds(3)", x.finds(3), what == 0 ? 2 : 0);
+            x.drop(1);
+            due("one dropped, finds(" + what + ")", x.finds(what), 1);
+            x.drop(0);
+            due("all dropped, finds(" + what + ")", x.finds(what), 0);
+            due("all dropped, finds(3)", x.finds(3), 0);
+            due("all dropped, has(0, 0)", x.has(0, 0), NONE);
+        }
     }
 
     private static void promise15() {
@@ -632,6 +671,9 @@ public final class PromisesTest {
         due("all(1)", x.all(1), 1 + 1 + 1);
         due("all(2)", x.all(2), 5 + 3 + 5);
         due("all(3)", x.all(3), 2 + 1);
+        due("eighty", eighty().all(0), 80);
+        due("eighty, of one person", eighty().all(1), 10);
+        due("eighty, of one core", eighty().all(2), 80);
         due("all(-1)", x.all(-1), BEYOND);
         due("all(4)", x.all(4), BEYOND);
     }
@@ -656,6 +698,9 @@ public final class PromisesTest {
         due("a thirty-first", x.use(0, 0, 0, 1), FULL);
         due("a wrong thirty-first", x.use(0, 0, 1, 1), BEYOND);
         due("told(3)", x.told(3), 30);
+        due("at(0, 0)", x.at(0, 0), 29);
+        due("peak(1)", x.peak(1), 998);
+        due("measure(0, 3)", x.measure(0, 3), 29);
     }
 
     private static void promise22() {
@@ -687,6 +732,8 @@ public final class PromisesTest {
         due("one", x.peak(0), 50);
         x.use(0, 0, 20, 30);
         due("two apart", x.peak(0), 20);
+        x.use(0, 0, 70, 80);
+        due("three apart", x.peak(0), 20);
         x.use(0, 0, 55, 56);
         due("two at once", x.peak(0), 55);
         x.use(0, 0, 30, 40);
@@ -888,8 +935,8 @@ public final class PromisesTest {
         x.right(0, 3, 1, 1, 0, 99);
         x.right(0, 2, 2, 1, 0, 99);
         x.right(0, 1, 1, 1, 0, 99);
-        due("lack", x.lack(), 0);
         due("without(0)", x.without(0), 1);
+        due("lack", x.lack(), 0);
         due("without(1)", x.without(1), 1);
         due("without(2)", x.without(2), 0);
         due("without(-1)", x.without(-1), BEYOND);
@@ -913,6 +960,10 @@ public final class PromisesTest {
         due("spared(3)", x.spared(3), BEYOND);
         due("nothing has changed", x.lack(), 2);
         due("has(0, 0)", x.has(0, 0), 9);
+        InstallDesk y = eighty();
+        for (int host = 0; host < 8; host++) {
+            due("one of eight, " + host, y.spared(host), 70);
+        }
     }
 
     private static void promise33() {
@@ -924,6 +975,7 @@ public final class PromisesTest {
         x.right(0, 9, 1, 1, 5, 9);
         x.right(0, 9, 1, 1, 0, 9998);
         x.right(0, 9, 1, 1, 8, 20);
+        due("when(0), first asked", x.when(0), 21);
         due("when(-1)", x.when(-1), BEYOND);
         due("when(81)", x.when(81), BEYOND);
         due("when(0)", x.when(0), 21);
@@ -1000,11 +1052,73 @@ public final class PromisesTest {
             due("peak", x.peak(0), 5);
             due("as", x.as(1, FREE), KIND);
         }
+        dueRowsBack();
+        dueGoneWithBack();
+    }
+
+    /** Rows whose places others have taken since they were kept. */
+    private static void dueRowsBack() {
+        InstallDesk x = plain(2, 2);
+        x.unrule(0);
+        x.unrule(0);
+        rule(x, 1, 0, 1, 28);
+        rule(x, 2, 1, 28);
+        find(x, 0, 8, 4, 1, 1);
+        find(x, 1, 6, 5, 2);
+        x.today(8);
+        x.kept(1);
+        x.keep();
+        x.drop(0);
+        x.drop(0);
+        x.unrule(0);
+        x.unrule(0);
+        rule(x, 3, 1, 4, 28);
+        rule(x, 1, 0, 27);
+        find(x, 1, 7, 6, 4);
+        find(x, 0, 8, 7, 1);
+        due("back", x.back(), 2);
+        due("goes(0)", x.goes(0), 0);
+        due("goes(1)", x.goes(1), 1);
+        due("by(0)", x.by(0), 0);
+        due("fits(0, 0)", x.fits(0, 0), 1);
+        due("fits(0, 1)", x.fits(0, 1), 0);
+        due("fits(1, 1)", x.fits(1, 1), 1);
+        due("counts(0)", x.counts(0), 1);
+        due("counts(1)", x.counts(1), 0);
+        due("has(0, 0)", x.has(0, 0), 4);
+        x.today(7);
+        due("has(0, 0) a day ahead", x.has(0, 0), NONE);
+        due("has(1, 1)", x.has(1, 1), 5);
+    }
+
+    /** What was told after keep is as if it had never been. */
+    private static void dueGoneWithBack() {
+        InstallDesk x = plain(1, 1);
+        x.keep();
+        x.use(0, 0, 3, 9);
+        x.product(PRODUCT, 0, 0);
+        x.use(0, 1, 3, 9);
+        rule(x, 0, 0, 28);
+        find(x, 0, 0, 1, 5);
+        x.right(0, 9, 9, 9, 0, 99);
+        x.back();
+        due("at(0, 3)", x.at(0, 3), 0);
+        due("peak(0)", x.peak(0), NONE);
+        due("measure(0, 3)", x.measure(0, 3), 0);
+        due("all(3)", x.all(3), 0);
+        due("as(1, 0)", x.as(1, 0), BEYOND);
+        due("amount(0, 0)", x.amount(0, 0), BEYOND);
+        due("finds(0)", x.finds(0), 0);
+        find(x, 0, 0, 1, 5);
+        due("goes(0)", x.goes(0), UNREAD);
+        find(x, 0, 0, 1, 1);
+        due("lack", x.lack(), 1);
     }
 
     private static void upset(InstallDesk x) {
         x.drop(0);
         x.unrule(0);
+        rule(x, 9, 1, 28);
         x.product(SUITE, 3, 1);
         x.moved(0, 7);
         x.host(1, 1);
@@ -1037,6 +1151,20 @@ public final class PromisesTest {
         due("told(-1)", x.told(-1), BEYOND);
         due("told(7)", x.told(7), BEYOND);
         due("told(5)", x.told(5), 2);
+        x.find(0, 0, 1);
+        due("goes(0)", x.goes(0), 0);
+        due("by(0)", x.by(0), 3);
+        x.unrule(0);
+        x.unrule(0);
+        x.unrule(0);
+        due("by(0)", x.by(0), 0);
+        due("answers of 0 are no findings", x.told(5), 2);
+        x.product(SUITE, -1, 1);
+        due("told(5), wrong parts", x.told(5), 3);
+        x.right(0, 1, 41, 1, 0, 0);
+        due("told(5), a wrong amount", x.told(5), 4);
+        x.right(0, 1, 1, 1001, 0, 0);
+        due("told(5), a wrong price", x.told(5), 5);
         dueEachFindingCounts();
     }
 
