@@ -48,6 +48,11 @@ public final class InstallDesk {
     private static final int MOST_PRICE = 1000;
     private static final int MOST_LACK = 80;
 
+    private static final int THAT_GO = 0;
+    private static final int THAT_QUARREL = 1;
+    private static final int THAT_ARE_UNREAD = 2;
+    private static final int THAT_COUNT = 3;
+
     private static final int BY_HOSTS = 0;
     private static final int BY_PERSONS = 1;
     private static final int BY_CORES = 2;
@@ -182,13 +187,16 @@ public final class InstallDesk {
     }
 
     public int finds(int what) {
-        switch (what) {
-            case 0: return books.howManyGo();
-            case 1: return books.howManyHaveGoal(QUARREL);
-            case 2: return books.howManyHaveGoal(UNREAD);
-            case 3: return books.howManyCount();
-            default: return finding(BEYOND);
+        if (!isWithin(what, THAT_GO, THAT_COUNT)) {
+            return finding(BEYOND);
         }
+        int sum = 0;
+        for (int find = 0; find < books.finds.count; find++) {
+            if (books.isOfSort(find, what)) {
+                sum++;
+            }
+        }
+        return sum;
     }
 
     public int drop(int find) {
@@ -473,24 +481,6 @@ public final class InstallDesk {
         return (int) (row >>> (SIGN_BITS * place)) & SIGN_MASK;
     }
 
-    private static boolean isMatching(long pattern, long name) {
-        // One place more than a row can have, so that the ends of full rows are looked at too.
-        for (int place = 0; place <= MOST_LETTERS; place++) {
-            int sign = signAt(pattern, place);
-            int letter = signAt(name, place);
-            if (sign == ANY_LETTERS) {
-                return true;
-            }
-            if (sign == 0 || letter == 0) {
-                return sign == letter;
-            }
-            if (sign != ANY_LETTER && sign != letter) {
-                return false;
-            }
-        }
-        return true;
-    }
-
     /** The letters and signs that wait. */
     private static final class Letters {
         private int count;
@@ -771,7 +761,23 @@ public final class InstallDesk {
         private int keptDays = FIRST_KEPT_DAYS;
 
         private boolean isFitting(int rule, int find) {
-            return isMatching(rules.patterns[rule], finds.names[find]);
+            long pattern = rules.patterns[rule];
+            long name = finds.names[find];
+            // One place more than a row can have, so that the ends of full rows are looked at too.
+            for (int place = 0; place <= MOST_LETTERS; place++) {
+                int sign = signAt(pattern, place);
+                int letter = signAt(name, place);
+                if (sign == ANY_LETTERS) {
+                    return true;
+                }
+                if (sign == 0 || letter == 0) {
+                    return sign == letter;
+                }
+                if (sign != ANY_LETTER && sign != letter) {
+                    return false;
+                }
+            }
+            return true;
         }
 
         private int firstRuleOf(int find) {
@@ -808,34 +814,13 @@ public final class InstallDesk {
             return isInTime(find) && goalOf(find) >= 0;
         }
 
-        private int howManyGo() {
-            int sum = 0;
-            for (int find = 0; find < finds.count; find++) {
-                if (goalOf(find) >= 0) {
-                    sum++;
-                }
+        private boolean isOfSort(int find, int sort) {
+            switch (sort) {
+                case THAT_GO: return goalOf(find) >= 0;
+                case THAT_QUARREL: return goalOf(find) == QUARREL;
+                case THAT_ARE_UNREAD: return goalOf(find) == UNREAD;
+                default: return isCounted(find);
             }
-            return sum;
-        }
-
-        private int howManyHaveGoal(int goal) {
-            int sum = 0;
-            for (int find = 0; find < finds.count; find++) {
-                if (goalOf(find) == goal) {
-                    sum++;
-                }
-            }
-            return sum;
-        }
-
-        private int howManyCount() {
-            int sum = 0;
-            for (int find = 0; find < finds.count; find++) {
-                if (isCounted(find)) {
-                    sum++;
-                }
-            }
-            return sum;
         }
 
         private void copyFrom(Books other) {
