@@ -763,8 +763,7 @@ public final class InstallDesk {
         private boolean isFitting(int rule, int find) {
             long pattern = rules.patterns[rule];
             long name = finds.names[find];
-            // One place more than a row can have, so that the ends of full rows are looked at too.
-            for (int place = 0; place <= MOST_LETTERS; place++) {
+            for (int place = 0; place < MOST_LETTERS; place++) {
                 int sign = signAt(pattern, place);
                 int letter = signAt(name, place);
                 if (sign == ANY_LETTERS) {

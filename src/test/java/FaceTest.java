@@ -40,6 +40,7 @@ public final class FaceTest {
         List<String> lines = Files.readAllLines(SOURCE);
         dueText(lines);
         dueMadeOnce(lines);
+        dueHeadings(lines);
         dueShortMethods(lines);
         System.out.println(wrong == 0 ? "the face is as due" : wrong + " things are not as due");
         if (wrong != 0) {
@@ -127,6 +128,31 @@ public final class FaceTest {
             boolean making = line.matches(".*\\bnew\\b.*");
             due("made once: " + line, !making || line.trim().startsWith("private final "));
         }
+    }
+
+    /** What the interface says ahead of calls, and the calls in the document's order. */
+    private static void dueHeadings(List<String> lines) {
+        String[][] heads = {{"letters, rules, products", "letter"}, {"hosts, finds", "host"},
+            {"uses", "use"}, {"rights", "right"}, {"the whole", "keep"}};
+        List<String> said = new ArrayList<>();
+        Pattern line = Pattern.compile("^    (?:// ---- (.*)|public int (\\w+)\\(.*)$");
+        for (String text : lines) {
+            Matcher m = line.matcher(text);
+            if (m.matches()) {
+                said.add(m.group(1) != null ? "---- " + m.group(1) : m.group(2));
+            }
+        }
+        List<String> wanted = new ArrayList<>();
+        for (String call : FACE) {
+            String name = call.split(" ")[0];
+            for (String[] head : heads) {
+                if (head[1].equals(name)) {
+                    wanted.add("---- " + head[0]);
+                }
+            }
+            wanted.add(name);
+        }
+        due("headings and calls " + said, said.equals(wanted));
     }
 
     private static void dueShortMethods(List<String> lines) {
