@@ -3,7 +3,8 @@ import java.util.Arrays;
 /**
  * A desk that tells what is installed: names found on hosts led to products by rules of ranks,
  * suites made of their parts, finds that are too old, counts by hosts, persons, cores and uses at
- * once, and rights with versions, days and prices matched to what is there.
+ * once, and rights with versions, days and prices matched to what is there so that least lacks and
+ * then least is paid.
  */
 public final class InstallDesk {
     private static final int BEYOND = -1;

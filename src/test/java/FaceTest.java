@@ -10,18 +10,16 @@ import java.util.Arrays;
 import java.util.HashSet;
 import java.util.List;
 import java.util.Set;
-import java.util.TreeSet;
 import java.util.regex.Matcher;
 import java.util.regex.Pattern;
 
 /** The public face, and the rules of LANGUAGE.md that the class and its text show. */
 public final class FaceTest {
     private static final Path SOURCE = Path.of("src/main/java/InstallDesk.java");
-    private static final String[] FACE = {"letter 1", "product 3", "as 2", "rule 2", "unrule 1",
-        "fits 2", "host 2", "moved 2", "find 3", "goes 1", "by 1", "counts 1", "finds 1", "drop 1",
-        "today 1", "kept 1", "has 2", "measure 2", "all 1", "use 4", "at 2", "peak 1", "right 6",
-        "amount 2", "may 2", "needs 0", "lack 0", "cost 0", "of 2", "without 1", "spared 1",
-        "when 1", "keep 0", "back 0", "told 1"};
+    private static final Path DOCUMENT = Path.of("../shared/DOC.md");
+    // What LANGUAGE.md lets the class take from the library, as far as it is written Name.name(..).
+    private static final Pattern LIBRARY = Pattern.compile("System\\.arraycopy|Arrays\\.(copyOf"
+        + "|copyOfRange|fill)|(Integer|Long|Math)\\.(?!\\w*Exact\\b)\\w+|List\\.of");
 
     private static int wrong = 0;
 
@@ -33,19 +31,64 @@ public final class FaceTest {
     }
 
     public static void main(String[] args) throws IOException {
+        List<String> document = Files.readAllLines(DOCUMENT);
+        List<String> lines = Files.readAllLines(SOURCE);
+        dueFace(document, lines);
+        dueHeadings(document, lines);
         dueClass();
         dueMethods();
         dueFields(InstallDesk.class);
         dueInside();
-        List<String> lines = Files.readAllLines(SOURCE);
         dueText(lines);
+        dueLibrary(lines);
         dueMadeOnce(lines);
-        dueHeadings(lines);
         dueShortMethods(lines);
         System.out.println(wrong == 0 ? "the face is as due" : wrong + " things are not as due");
         if (wrong != 0) {
             System.exit(1);
         }
+    }
+
+    /** The class, its constructor and its calls, word by word and in the document's order. */
+    private static void dueFace(List<String> document, List<String> lines) {
+        List<String> wanted = publicLines(document, ";");
+        due("the document has a face", wanted.size() > 2);
+        due("the face " + publicLines(lines, " {"), publicLines(lines, " {").equals(wanted));
+    }
+
+    private static List<String> publicLines(List<String> lines, String end) {
+        List<String> found = new ArrayList<>();
+        for (String line : lines) {
+            String text = line.trim();
+            if (text.startsWith("public ")) {
+                boolean ofClass = text.contains(" class ");
+                found.add(text.replace(ofClass ? " {" : end, ""));
+            }
+        }
+        return found;
+    }
+
+    /** What the interface says ahead of calls. */
+    private static void dueHeadings(List<String> document, List<String> lines) {
+        Pattern ahead = Pattern.compile("Ahead of the calls (.*) the interface says: ---- (.*)\\.");
+        List<String> wanted = new ArrayList<>();
+        for (String line : document) {
+            Matcher m = ahead.matcher(line);
+            if (m.matches()) {
+                wanted.add("---- " + m.group(2));
+                wanted.addAll(Arrays.asList(m.group(1).replace("`", "").split(", ")));
+            }
+        }
+        List<String> said = new ArrayList<>();
+        Pattern headOrCall = Pattern.compile("^    (?:// (---- .*)|public int (\\w+)\\(.*)$");
+        for (String line : lines) {
+            Matcher m = headOrCall.matcher(line);
+            if (m.matches()) {
+                said.add(m.group(1) != null ? m.group(1) : m.group(2));
+            }
+        }
+        due("the document has headings", wanted.size() > 2);
+        due("headings and calls " + said, said.equals(wanted));
     }
 
     private static void dueClass() {
@@ -58,32 +101,22 @@ public final class FaceTest {
     }
 
     private static void dueMethods() {
-        Set<String> open = new TreeSet<>();
-        Set<String> openNames = new HashSet<>();
-        List<String> hidden = new ArrayList<>();
+        Set<String> open = new HashSet<>();
+        List<Method> hidden = new ArrayList<>();
         for (Method m : InstallDesk.class.getDeclaredMethods()) {
             if (Modifier.isPrivate(m.getModifiers())) {
-                hidden.add(m.getName());
+                hidden.add(m);
                 continue;
             }
             due(m + " is public", Modifier.isPublic(m.getModifiers()));
-            due(m + " is no static one", !Modifier.isStatic(m.getModifiers()));
-            due(m + " answers int", m.getReturnType() == int.class);
-            dueParameters(m);
-            open.add(m.getName() + " " + m.getParameterCount());
-            openNames.add(m.getName());
+            open.add(m.getName());
         }
-        due("the methods " + open, open.equals(new TreeSet<>(Arrays.asList(FACE))));
-        for (String name : hidden) {
-            due("a private name of its own: " + name, !openNames.contains(name));
+        for (Class<?> c : InstallDesk.class.getDeclaredClasses()) {
+            hidden.addAll(Arrays.asList(c.getDeclaredMethods()));
         }
-    }
-
-    private static void dueParameters(Method m) {
-        Class<?>[] types = m.getParameterTypes();
-        for (int i = 0; i < types.length; i++) {
-            boolean truth = m.getName().equals("of") && i == 1;
-            due(m + ", parameter " + i, types[i] == (truth ? boolean.class : int.class));
+        for (Method m : hidden) {
+            due(m + " has a name of its own", !open.contains(m.getName()));
+            due(m + " takes at most seven", m.getParameterCount() <= 7);
         }
     }
 
@@ -105,14 +138,11 @@ public final class FaceTest {
             long held = Arrays.stream(c.getDeclaredFields())
                 .filter(f -> !Modifier.isStatic(f.getModifiers())).count();
             due(c + " has at most twenty fields", held <= 20);
-            for (Method m : c.getDeclaredMethods()) {
-                due(m + " takes at most seven", m.getParameterCount() <= 7);
-            }
         }
     }
 
     private static void dueText(List<String> lines) {
-        Pattern banned = Pattern.compile("\\b(throw|throws|try|catch|synchronized|assert|while|do"
+        Pattern banned = Pattern.compile("\\b(throw|throws|try|catch|synchronized|assert"
             + "|transient|volatile|native|Object|System\\.(?!arraycopy)|Random|Thread)\\b|->|::");
         for (int i = 0; i < lines.size(); i++) {
             String line = lines.get(i).replaceFirst("^\\s*(//|/?\\*).*", "");
@@ -122,37 +152,22 @@ public final class FaceTest {
         }
     }
 
+    private static void dueLibrary(List<String> lines) {
+        Pattern qualified = Pattern.compile("\\b[A-Z]\\w*\\.\\w+(?=\\()");
+        for (String line : lines) {
+            Matcher m = qualified.matcher(line);
+            while (m.find()) {
+                due("from the library: " + m.group(), LIBRARY.matcher(m.group()).matches());
+            }
+        }
+    }
+
     /** Calls make nothing: all rows are made with the object that holds them. */
     private static void dueMadeOnce(List<String> lines) {
         for (String line : lines) {
             boolean making = line.matches(".*\\bnew\\b.*");
             due("made once: " + line, !making || line.trim().startsWith("private final "));
         }
-    }
-
-    /** What the interface says ahead of calls, and the calls in the document's order. */
-    private static void dueHeadings(List<String> lines) {
-        String[][] heads = {{"letters, rules, products", "letter"}, {"hosts, finds", "host"},
-            {"uses", "use"}, {"rights", "right"}, {"the whole", "keep"}};
-        List<String> said = new ArrayList<>();
-        Pattern line = Pattern.compile("^    (?:// ---- (.*)|public int (\\w+)\\(.*)$");
-        for (String text : lines) {
-            Matcher m = line.matcher(text);
-            if (m.matches()) {
-                said.add(m.group(1) != null ? "---- " + m.group(1) : m.group(2));
-            }
-        }
-        List<String> wanted = new ArrayList<>();
-        for (String call : FACE) {
-            String name = call.split(" ")[0];
-            for (String[] head : heads) {
-                if (head[1].equals(name)) {
-                    wanted.add("---- " + head[0]);
-                }
-            }
-            wanted.add(name);
-        }
-        due("headings and calls " + said, said.equals(wanted));
     }
 
     private static void dueShortMethods(List<String> lines) {

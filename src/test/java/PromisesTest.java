@@ -1,57 +1,5 @@
 /** For each promise of the document: ordinary inputs, the edges that it names, and wrong inputs. */
-public final class PromisesTest {
-    private static final int BEYOND = -1;
-    private static final int NONE = -2;
-    private static final int FULL = -3;
-    private static final int KIND = -4;
-    private static final int QUARREL = -5;
-    private static final int UNREAD = -6;
-    private static final int SIZE = -7;
-
-    private static final int PRODUCT = 0;
-    private static final int SUITE = 1;
-    private static final int FREE = 2;
-    private static final int PARTED = 3;
-
-    private static int wrong = 0;
-    private static String promise = "";
-
-    private static void due(String call, int got, int want) {
-        if (got != want) {
-            wrong++;
-            System.out.println(promise + ": " + call + " answered " + got + ", due is " + want);
-        }
-    }
-
-    private static void spell(InstallDesk x, int... signs) {
-        for (int sign : signs) {
-            x.letter(sign);
-        }
-    }
-
-    private static int rule(InstallDesk x, int rank, int product, int... signs) {
-        spell(x, signs);
-        return x.rule(rank, product);
-    }
-
-    private static int find(InstallDesk x, int host, int day, int version, int... letters) {
-        spell(x, letters);
-        return x.find(host, day, version);
-    }
-
-    /** So many products, each of them found by the one letter of its number and one. */
-    private static InstallDesk plain(int products, int hosts) {
-        InstallDesk x = new InstallDesk();
-        for (int i = 0; i < products; i++) {
-            x.product(PRODUCT, 0, 0);
-            rule(x, 0, i, i + 1);
-        }
-        for (int i = 0; i < hosts; i++) {
-            x.host(1, i);
-        }
-        return x;
-    }
-
+public final class PromisesTest extends Check {
     public static void main(String[] args) {
         promise1();
         promise2();
@@ -90,6 +38,7 @@ public final class PromisesTest {
         promise34();
         promise35();
         promise36();
+        int wrong = wrongSoFar();
         System.out.println(wrong == 0 ? "all answers are as due" : wrong + " answers are not as due");
         if (wrong != 0) {
             System.exit(1);
@@ -97,7 +46,7 @@ public final class PromisesTest {
     }
 
     private static void promise1() {
-        promise = "1 a new object";
+        begin("1 a new object");
         InstallDesk x = new InstallDesk();
         for (int what = 0; what <= 6; what++) {
             due("told(" + what + ")", x.told(what), 0);
@@ -115,7 +64,7 @@ public final class PromisesTest {
     }
 
     private static void promise2() {
-        promise = "2 letter";
+        begin("2 letter");
         InstallDesk x = new InstallDesk();
         due("letter(0)", x.letter(0), BEYOND);
         due("letter(-1)", x.letter(-1), BEYOND);
@@ -132,7 +81,7 @@ public final class PromisesTest {
     }
 
     private static void promise3() {
-        promise = "3 product";
+        begin("3 product");
         InstallDesk x = new InstallDesk();
         due("kind -1", x.product(-1, 0, 1), BEYOND);
         due("kind 4", x.product(4, 0, 1), BEYOND);
@@ -158,7 +107,7 @@ public final class PromisesTest {
     }
 
     private static void promise4() {
-        promise = "4 as";
+        begin("4 as");
         InstallDesk x = new InstallDesk();
         for (int kind = 0; kind <= 3; kind++) {
             x.product(kind, 0, 1);
@@ -177,7 +126,7 @@ public final class PromisesTest {
     }
 
     private static void promise5() {
-        promise = "5 rule";
+        begin("5 rule");
         InstallDesk x = new InstallDesk();
         spell(x, 1, 28);
         due("no product", x.rule(0, 0), BEYOND);
@@ -209,7 +158,7 @@ public final class PromisesTest {
     }
 
     private static void promise6() {
-        promise = "6 unrule";
+        begin("6 unrule");
         InstallDesk x = plain(3, 1);
         for (int i = 1; i <= 3; i++) {
             find(x, 0, 0, 1, i);
@@ -251,7 +200,7 @@ public final class PromisesTest {
     }
 
     private static void promise7() {
-        promise = "7 fits";
+        begin("7 fits");
         InstallDesk x = new InstallDesk();
         x.product(PRODUCT, 0, 0);
         x.host(1, 0);
@@ -280,7 +229,7 @@ public final class PromisesTest {
     }
 
     private static void promise8() {
-        promise = "8 host";
+        begin("8 host");
         InstallDesk x = new InstallDesk();
         due("cores 0", x.host(0, 0), BEYOND);
         due("cores 65", x.host(65, 0), BEYOND);
@@ -297,7 +246,7 @@ public final class PromisesTest {
     }
 
     private static void promise9() {
-        promise = "9 moved";
+        begin("9 moved");
         InstallDesk x = plain(1, 2);
         due("host -1", x.moved(-1, 0), BEYOND);
         due("host 2", x.moved(2, 0), BEYOND);
@@ -315,7 +264,7 @@ public final class PromisesTest {
     }
 
     private static void promise10() {
-        promise = "10 find";
+        begin("10 find");
         InstallDesk x = plain(1, 1);
         spell(x, 1);
         due("host -1", x.find(-1, 0, 1), BEYOND);
@@ -345,7 +294,7 @@ public final class PromisesTest {
     }
 
     private static void promise11() {
-        promise = "11 goes";
+        begin("11 goes");
         InstallDesk x = new InstallDesk();
         x.host(1, 0);
         x.product(PRODUCT, 0, 0);
@@ -372,7 +321,7 @@ public final class PromisesTest {
     }
 
     private static void promise12() {
-        promise = "12 by";
+        begin("12 by");
         InstallDesk x = plain(2, 1);
         rule(x, 7, 0, 9, 28);
         rule(x, 4, 1, 9, 28);
@@ -391,7 +340,7 @@ public final class PromisesTest {
     }
 
     private static void promise13() {
-        promise = "13 counts";
+        begin("13 counts");
         InstallDesk x = plain(2, 1);
         rule(x, 0, 1, 1, 28);
         find(x, 0, 100, 1, 2);
@@ -416,7 +365,7 @@ public final class PromisesTest {
     }
 
     private static void promise14() {
-        promise = "14 finds";
+        begin("14 finds");
         InstallDesk x = plain(2, 1);
         rule(x, 0, 1, 1, 28);
         for (int i = 0; i < 3; i++) {
@@ -463,7 +412,7 @@ public final class PromisesTest {
     }
 
     private static void promise15() {
-        promise = "15 drop";
+        begin("15 drop");
         InstallDesk x = plain(3, 3);
         for (int i = 0; i < 3; i++) {
             find(x, i, 0, i + 4, i + 1);
@@ -494,7 +443,7 @@ public final class PromisesTest {
     }
 
     private static void promise16() {
-        promise = "16 today";
+        begin("16 today");
         InstallDesk x = new InstallDesk();
         due("today(-1)", x.today(-1), BEYOND);
         due("today(10000)", x.today(10000), BEYOND);
@@ -505,7 +454,7 @@ public final class PromisesTest {
     }
 
     private static void promise17() {
-        promise = "17 kept";
+        begin("17 kept");
         InstallDesk x = new InstallDesk();
         due("kept(-1)", x.kept(-1), BEYOND);
         due("kept(1000)", x.kept(1000), BEYOND);
@@ -515,7 +464,7 @@ public final class PromisesTest {
     }
 
     private static void promise18() {
-        promise = "18 has";
+        begin("18 has");
         InstallDesk x = plain(2, 2);
         find(x, 0, 0, 3, 1);
         find(x, 0, 0, 8, 1);
@@ -535,28 +484,21 @@ public final class PromisesTest {
         due("has(0, 2)", x.has(0, 2), BEYOND);
     }
 
-    private static void dueHeld(InstallDesk x, String what, int... versions) {
-        for (int product = 0; product < versions.length; product++) {
-            int want = versions[product] == 0 ? NONE : versions[product];
-            due(what + ", has(0, " + product + ")", x.has(0, product), want);
-        }
-    }
-
     private static void promise18Suites() {
-        promise = "18 has, suites";
+        begin("18 has, suites");
         InstallDesk x = plain(3, 1);
         x.product(SUITE, 7, 2);
         rule(x, 0, 3, 4);
         find(x, 0, 0, 3, 1);
-        dueHeld(x, "one part of two", 3, 0, 0, 0);
+        dueHeld("one part of two", x, 3, 0, 0, 0);
         find(x, 0, 0, 6, 3);
-        dueHeld(x, "two parts of two", 0, 0, 0, 6);
+        dueHeld("two parts of two", x, 0, 0, 0, 6);
         find(x, 0, 0, 5, 2);
-        dueHeld(x, "three parts of two", 0, 0, 0, 6);
+        dueHeld("three parts of two", x, 0, 0, 0, 6);
         find(x, 0, 0, 4, 4);
-        dueHeld(x, "had with a less version", 0, 0, 0, 6);
+        dueHeld("had with a less version", x, 0, 0, 0, 6);
         find(x, 0, 0, 9, 4);
-        dueHeld(x, "had with a greater version", 0, 0, 0, 9);
+        dueHeld("had with a greater version", x, 0, 0, 0, 9);
 
         InstallDesk y = new InstallDesk();
         y.product(SUITE, 0b10, 1);
@@ -570,11 +512,11 @@ public final class PromisesTest {
         rule(y, 0, 3, 3);
         y.host(1, 0);
         find(y, 0, 0, 2, 1);
-        dueHeld(y, "suites of suites, parted last", 0, 0, 2, 2, 0, 0);
+        dueHeld("suites of suites, parted last", y, 0, 0, 2, 2, 0, 0);
         find(y, 0, 0, 7, 2);
-        dueHeld(y, "a part of a greater number", 0, 0, 2, 2, 7, 0);
+        dueHeld("a part of a greater number", y, 0, 0, 2, 2, 7, 0);
         find(y, 0, 0, 8, 3);
-        dueHeld(y, "a suite that is its own part", 0, 0, 2, 8, 7, 0);
+        dueHeld("a suite that is its own part", y, 0, 0, 2, 8, 7, 0);
 
         InstallDesk z = new InstallDesk();
         z.product(SUITE, 0b10, 1);
@@ -583,7 +525,7 @@ public final class PromisesTest {
         rule(z, 0, 2, 1);
         z.host(1, 0);
         find(z, 0, 0, 2, 1);
-        dueHeld(z, "made after it was asked for", 0, 2, 0);
+        dueHeld("made after it was asked for", z, 0, 2, 0);
 
         InstallDesk w = new InstallDesk();
         w.product(SUITE, 0b11, 2);
@@ -597,21 +539,21 @@ public final class PromisesTest {
         w.host(1, 0);
         find(w, 0, 0, 5, 1);
         find(w, 0, 0, 6, 2);
-        dueHeld(w, "itself makes no two", 5, 6, 0, 0);
+        dueHeld("itself makes no two", w, 5, 6, 0, 0);
         find(w, 1, 0, 9, 3);
-        dueHeld(w, "another host's part", 5, 6, 0, 0);
+        dueHeld("another host's part", w, 5, 6, 0, 0);
         find(w, 0, 0, 4, 3);
-        dueHeld(w, "parted leaves its parts", 5, 6, 4, 6);
+        dueHeld("parted leaves its parts", w, 5, 6, 4, 6);
         due("the other host", w.has(1, 3), NONE);
 
         InstallDesk v = plain(1, 1);
         v.product(SUITE, 0b1000000001, 1);
         find(v, 0, 0, 3, 1);
-        dueHeld(v, "a part that is no product yet", 0, 3);
+        dueHeld("a part that is no product yet", v, 0, 3);
     }
 
     private static void promise19() {
-        promise = "19 measure";
+        begin("19 measure");
         InstallDesk x = new InstallDesk();
         x.product(PRODUCT, 0, 0);
         x.product(FREE, 0, 0);
@@ -652,7 +594,7 @@ public final class PromisesTest {
     }
 
     private static void promise20() {
-        promise = "20 all";
+        begin("20 all");
         InstallDesk x = new InstallDesk();
         x.product(PRODUCT, 0, 0);
         x.product(FREE, 0, 0);
@@ -679,7 +621,7 @@ public final class PromisesTest {
     }
 
     private static void promise21() {
-        promise = "21 use";
+        begin("21 use");
         InstallDesk x = plain(2, 0);
         due("person -1", x.use(-1, 0, 0, 1), BEYOND);
         due("person 10", x.use(10, 0, 0, 1), BEYOND);
@@ -704,7 +646,7 @@ public final class PromisesTest {
     }
 
     private static void promise22() {
-        promise = "22 at";
+        begin("22 at");
         InstallDesk x = plain(2, 0);
         x.use(0, 0, 3, 5);
         x.use(0, 0, 4, 999);
@@ -721,7 +663,7 @@ public final class PromisesTest {
     }
 
     private static void promise23() {
-        promise = "23 peak";
+        begin("23 peak");
         InstallDesk x = plain(3, 0);
         due("peak(-1)", x.peak(-1), BEYOND);
         due("peak(3)", x.peak(3), BEYOND);
@@ -744,7 +686,7 @@ public final class PromisesTest {
     }
 
     private static void promise24() {
-        promise = "24 right";
+        begin("24 right");
         InstallDesk x = plain(2, 0);
         due("product -1", x.right(-1, 1, 0, 0, 0, 0), BEYOND);
         due("product 2", x.right(2, 1, 0, 0, 0, 0), BEYOND);
@@ -768,7 +710,7 @@ public final class PromisesTest {
     }
 
     private static void promise25() {
-        promise = "25 amount";
+        begin("25 amount");
         InstallDesk x = plain(1, 1);
         find(x, 0, 0, 1, 1);
         x.right(0, 1, 7, 3, 0, 9);
@@ -785,7 +727,7 @@ public final class PromisesTest {
     }
 
     private static void promise26() {
-        promise = "26 may";
+        begin("26 may");
         InstallDesk x = plain(2, 2);
         x.product(FREE, 0, 0);
         rule(x, 0, 2, 3);
@@ -819,7 +761,7 @@ public final class PromisesTest {
     }
 
     private static void promise27() {
-        promise = "27 needs";
+        begin("27 needs");
         InstallDesk x = plain(2, 3);
         x.product(FREE, 0, 0);
         x.product(PARTED, 1, 1);
@@ -840,23 +782,8 @@ public final class PromisesTest {
         due("above 80", y.when(80), NONE);
     }
 
-    /** Eight hosts that have all of ten products: the most needs that there can be. */
-    private static InstallDesk eighty() {
-        InstallDesk x = new InstallDesk();
-        x.product(PRODUCT, 0, 0);
-        for (int i = 1; i < 10; i++) {
-            x.product(PARTED, 1, 1);
-        }
-        rule(x, 0, 0, 28);
-        for (int i = 0; i < 8; i++) {
-            x.host(1, 0);
-            x.find(i, 0, 1);
-        }
-        return x;
-    }
-
     private static void promise28() {
-        promise = "28 lack";
+        begin("28 lack");
         InstallDesk x = plain(2, 4);
         for (int i = 0; i < 4; i++) {
             find(x, i, 0, 2 * i + 1, 1);
@@ -880,7 +807,7 @@ public final class PromisesTest {
     }
 
     private static void promise29() {
-        promise = "29 cost";
+        begin("29 cost");
         InstallDesk x = plain(2, 3);
         find(x, 0, 0, 1, 1);
         find(x, 1, 0, 5, 1);
@@ -905,7 +832,7 @@ public final class PromisesTest {
     }
 
     private static void promise30() {
-        promise = "30 of";
+        begin("30 of");
         InstallDesk x = plain(2, 3);
         x.product(FREE, 0, 0);
         rule(x, 0, 2, 3);
@@ -927,7 +854,7 @@ public final class PromisesTest {
     }
 
     private static void promise31() {
-        promise = "31 without";
+        begin("31 without");
         InstallDesk x = plain(2, 3);
         for (int i = 0; i < 3; i++) {
             find(x, i, 0, i + 1, 1);
@@ -946,7 +873,7 @@ public final class PromisesTest {
     }
 
     private static void promise32() {
-        promise = "32 spared";
+        begin("32 spared");
         InstallDesk x = plain(2, 3);
         find(x, 0, 0, 9, 1);
         find(x, 0, 0, 9, 2);
@@ -967,7 +894,7 @@ public final class PromisesTest {
     }
 
     private static void promise33() {
-        promise = "33 when";
+        begin("33 when");
         InstallDesk x = plain(1, 2);
         find(x, 0, 5, 1, 1);
         find(x, 1, 5, 1, 1);
@@ -1000,7 +927,7 @@ public final class PromisesTest {
     }
 
     private static void promise34() {
-        promise = "34 keep";
+        begin("34 keep");
         InstallDesk x = plain(1, 1);
         due("no finds", x.keep(), 0);
         find(x, 0, 0, 1, 1);
@@ -1019,7 +946,7 @@ public final class PromisesTest {
     }
 
     private static void promise35() {
-        promise = "35 back";
+        begin("35 back");
         InstallDesk x = plain(2, 2);
         due("nothing is kept", x.back(), NONE);
         find(x, 0, 3, 4, 1);
@@ -1134,7 +1061,7 @@ public final class PromisesTest {
     }
 
     private static void promise36() {
-        promise = "36 told";
+        begin("36 told");
         InstallDesk x = plain(3, 2);
         rule(x, 0, 0, 28);
         x.use(0, 0, 0, 1);
